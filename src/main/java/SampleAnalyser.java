@@ -305,7 +305,8 @@ public final class SampleAnalyser {
         Order order = orders[number];
         Protocol protocol = protocols[order.test];
         boolean control = cuvette.control;
-        long exact = protocol.valueOf(cuvette.readings, cuvette.readingCount, order.diluted);
+        long result = protocol.formulaOf(cuvette.readings, cuvette.readingCount);
+        long exact = protocol.valueAt(result, order.diluted);
         int value = limited(exact);
         int flags = protocol.limitFlags(value) | order.runFlags() | (value == exact ? 0 : RANGE);
         cuvette.sendToWash();
@@ -337,6 +338,7 @@ public final class SampleAnalyser {
         if (slot == NONE) {
             return false;
         }
+        // What is short fails the order even while no cuvette and no booking could be had.
         if (slots[slot].volume < protocol.sampleVolume(order.diluted)) {
             order.fail(SAMPLE_SHORT);
             return false;
@@ -515,21 +517,21 @@ public final class SampleAnalyser {
     // ---- classes inside ----
 
     private static final class Protocol {
-        static final int SAMPLE = 0;
-        static final int KIND = 1;
-        static final int DOSE = 2;
-        static final int GIVEN_AT = 3;
-        static final int FIELDS_PER_REAGENT = 3;
-        static final int FIRST_READING = 7;
-        static final int LAST_READING = 8;
-        static final int FORMULA = 9;
-        static final int LOW_LIMIT = 10;
-        static final int HIGH_LIMIT = 11;
-        static final int RULE = 12;
-        static final int DILUTION = 13;
-        static final int MEAN = 14;
-        static final int DEVIATION = 15;
-        static final int FIELDS = 16;
+        private static final int SAMPLE = 0;
+        private static final int KIND = 1;
+        private static final int DOSE = 2;
+        private static final int GIVEN_AT = 3;
+        private static final int FIELDS_PER_REAGENT = 3;
+        private static final int FIRST_READING = 7;
+        private static final int LAST_READING = 8;
+        private static final int FORMULA = 9;
+        private static final int LOW_LIMIT = 10;
+        private static final int HIGH_LIMIT = 11;
+        private static final int RULE = 12;
+        private static final int DILUTION = 13;
+        private static final int MEAN = 14;
+        private static final int DEVIATION = 15;
+        private static final int FIELDS = 16;
 
         private static final int END = 0;
         private static final int RATE = 1;
@@ -626,12 +628,12 @@ public final class SampleAnalyser {
             return (value < fields[LOW_LIMIT] ? LOW : 0) | (value > fields[HIGH_LIMIT] ? HIGH : 0);
         }
 
-        long valueOf(int[] readings, int count, boolean diluted) {
-            long value = points.valueAt(formulaOf(readings, count));
+        long valueAt(long result, boolean diluted) {
+            long value = points.valueAt(result);
             return diluted ? value * fields[DILUTION] : value;
         }
 
-        private long formulaOf(int[] readings, int count) {
+        long formulaOf(int[] readings, int count) {
             if (!isWithin(count, 1, readings.length)) {
                 return 0;
             }

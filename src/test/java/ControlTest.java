@@ -105,6 +105,11 @@ public final class ControlTest {
         CHECK.due("not the latest", rulesOf(5120, 1024, 9, 5), 0);
         CHECK.due("the latest", rulesOf(5120, 1024, 5, 9), 1);
         CHECK.due("none", rulesOf(5120, 1), 0);
+        SampleAnalyser x = controls(5);
+        x.define(0, 14, 5120 - 3);
+        CHECK.due("three of the first deviation", x.rules(0), 0);
+        x.define(0, 14, 5120 - 4);
+        CHECK.due("four of the first deviation", x.rules(0), 1);
     }
 
     private static void twoDeviations() {
@@ -121,6 +126,7 @@ public final class ControlTest {
         CHECK.due("two below of three with one above", rulesOf(5120, 1000, 3, 7, 3), 2);
         CHECK.due("one of the latest three", rulesOf(5119, 1024, 7, 7, 5, 5), 0);
         CHECK.due("the fourth does not count", rulesOf(5119, 1024, 7, 5, 5, 7), 0);
+        CHECK.due("the fourth does not count below", rulesOf(5121, 1024, 3, 5, 5, 3), 0);
         CHECK.due("with the first rule", rulesOf(5119, 500, 7, 7), 3);
     }
 

@@ -87,8 +87,13 @@ public final class InputsTest {
         for (int bit = 0; bit < 16; bit++) {
             CHECK.due("of 2^" + bit, valueOf(1 << bit), 16384 - 1024 * bit);
         }
-        // 3 counts: e = 1, m = 49152 = 1.5 * 2^15, and r is the first ten bits of log2(1.5) = 0.58496..: 598 (of 599.0 with the roundings down).
-        CHECK.due("of 3", valueOf(3), 16384 - 1024 - 598);
+        // Counts for which each rounding down, and 65536 itself, decide a bit; worked out apart from the program.
+        int[][] known = {
+            {3, 14762}, {7, 13510}, {27, 11515}, {83, 9856}, {255, 8198}, {4543, 3943}, {9795, 2808}, {12345, 2467},
+            {34756, 938}, {40804, 701}, {46340, 513}, {46341, 512}, {48623, 442}, {65534, 1}};
+        for (int[] pair : known) {
+            CHECK.due("of " + pair[0], valueOf(pair[0]), pair[1]);
+        }
         CHECK.due("of 1000", valueOf(1000), 6180);
     }
 

@@ -30,10 +30,9 @@ public final class ProtocolTest {
             x.define(0, field, BOUNDS[field][0]);
             x.define(0, field, BOUNDS[field][1]);
             if (BOUNDS[field][0] != MIN) {
-                CHECK.refusesArgument("define(0, " + field + ", below)", () -> x.define(0, field, BOUNDS[field][0] - 1));
-                CHECK.refusesArgument("define(0, " + field + ", above)", () -> x.define(0, field, BOUNDS[field][1] + 1));
-                CHECK.refusesArgument("define(0, " + field + ", least)", () -> x.define(0, field, MIN));
-                CHECK.refusesArgument("define(0, " + field + ", most)", () -> x.define(0, field, MAX));
+                for (int wrong : new int[] {BOUNDS[field][0] - 1, BOUNDS[field][1] + 1, MIN, MAX}) {
+                    CHECK.refusesArgument("define(0, " + field + ", " + wrong + ")", () -> x.define(0, field, wrong));
+                }
             }
         }
     }
@@ -150,6 +149,7 @@ public final class ProtocolTest {
         seals("no sample", false, 0, 0);
         seals("sample 1", true, 0, 1);
         seals("first volume 0", false, 2, 0);
+        seals("volumes 1", true, 2, 1, 5, 1);
         seals("first age 0", false, 3, 0);
         seals("first reagent none, second one given", false, 1, -1);
         seals("no reagents", true, 1, -1, 4, -1);

@@ -10,6 +10,9 @@ public final class StepTest {
         leastCleanCuvette();
         contents();
         readingsOfTheirAges();
+        usedAgain();
+        lastCuvetteAndPosition();
+        volumesOfNoReagent();
         whichPosition();
         twoReagentsOfOneKind();
         secondReagentShort();
@@ -116,6 +119,77 @@ public final class StepTest {
             x.step();
         }
         CHECK.due("light at age 4 less that at age 2", x.state(0, 5), (9 - 3) * 1024);
+    }
+
+    /** A cuvette that is used a second time has nothing of its first run. */
+    private static void usedAgain() {
+        SampleAnalyser x = new SampleAnalyser();
+        Setup.define(x, 0, 0, 10, 1, 0, 2, 30, 3, 1, 4, 1, 5, 20, 6, 2, 7, 3, 8, 8, 9, Setup.RATE);
+        Setup.define(x, 0, 10, -20000, 11, 20000);
+        Setup.curve(x, 0, -1000000, -1000000, 1000000, 1000000);
+        x.seal(0);
+        x.rack(0, 1, 0, 100);
+        x.reagent(0, 0, 100, 9);
+        x.reagent(1, 1, 100, 9);
+        for (int round = 1; round <= 3; round++) {
+            int number = x.order(1, 0, false);
+            Setup.lightOf(x, 1);
+            CHECK.due("step()", x.step(), number);
+            CHECK.due("cuvette", x.state(number, 3), 0);
+            Setup.steps(x, 7);
+            CHECK.due("content", x.cuvette(0, 2), 60);
+            Setup.lightOf(x, 1 + round);
+            Setup.steps(x, 5);
+            // n = 6, only the last reading is higher: 1000 * 1024 * 15 / 105 for each 1024 of it.
+            CHECK.due("value", x.state(number, 5), Math.round(round * 1024000.0 / 7));
+            CHECK.due("first left", x.volume(1, 0), 100 - 30 * round);
+            CHECK.due("second left", x.volume(1, 1), 100 - 20 * round);
+        }
+    }
+
+    private static void lastCuvetteAndPosition() {
+        SampleAnalyser x = new SampleAnalyser();
+        Setup.withReagent(x, 0, 2, 5, 9);
+        x.rack(5, 1, 0, 1000);
+        x.reagent(7, 2, 1000, 9);
+        for (int n = 0; n < 10; n++) {
+            x.order(1, 0, false);
+        }
+        Setup.steps(x, 10);
+        CHECK.due("cuvette of the tenth", x.state(9, 3), 9);
+        CHECK.due("reserved", x.volume(2, 7), 45);
+        CHECK.due("left", x.volume(1, 7), 995);
+        Setup.lightOf(x, 4);
+        Setup.steps(x, 9);
+        CHECK.due("content", x.cuvette(9, 2), 15);
+        Setup.lightOf(x, 6);
+        Setup.steps(x, 2);
+        CHECK.due("value of the ninth", x.state(8, 5), 4096);
+        CHECK.due("value of the tenth", x.state(9, 5), 6144);
+        CHECK.due("reserved", x.volume(2, 7), 0);
+        CHECK.due("left", x.volume(1, 7), 950);
+        x.order(1, 0, false);
+        x.step();
+        CHECK.due("reserved", x.volume(2, 7), 5);
+        x.spoil(1);
+        Setup.steps(x, 9);
+        CHECK.due("left behind a miss", x.volume(1, 7), 950);
+        CHECK.due("reserved for the second run", x.volume(2, 7), 5);
+    }
+
+    private static void volumesOfNoReagent() {
+        SampleAnalyser x = new SampleAnalyser();
+        Setup.plain(x, 0);
+        Setup.define(x, 0, 2, 50, 3, 1, 5, 50, 6, 1);
+        CHECK.due("seal", x.seal(0), true);
+        x.rack(0, 1, 0, 100);
+        x.reagent(0, 0, 1000, 9);
+        x.order(1, 0, false);
+        x.order(1, 0, false);
+        CHECK.row("step()", new int[] {0, 1}, x::step);
+        CHECK.due("nothing reserved", x.volume(2, 0), 0);
+        CHECK.due("nothing taken", x.volume(1, 0), 1000);
+        CHECK.due("the sample alone", x.cuvette(0, 2), 10);
     }
 
     private static void whichPosition() {
