@@ -4,6 +4,9 @@ final class Setup {
     static final int RATE = 1;
     static final int DIFFERENCE = 2;
 
+    static final int REPEAT = 1;
+    static final int DILUTE = 2;
+
     private Setup() {
     }
 
@@ -23,16 +26,28 @@ final class Setup {
 
     /** A sample of 10, no reagent, a reading at age 1, no rule; the value is the absorbance. */
     static void plain(SampleAnalyser x, int test) {
-        define(x, test, 0, 10, 7, 1, 8, 1, 10, 0, 11, 20000);
+        read(x, test, 1);
+    }
+
+    /** As the plain one, with its one reading at an age. */
+    static void read(SampleAnalyser x, int test, int age) {
+        define(x, test, 0, 10, 7, age, 8, age, 10, 0, 11, 20000);
         curve(x, test, 0, 0, 16384, 16384);
         x.seal(test);
     }
 
     /** As the plain one, with one reagent at an age and the reading behind it. */
     static void withReagent(SampleAnalyser x, int test, int kind, int dose, int age) {
-        define(x, test, 0, 10, 1, kind, 2, dose, 3, age, 7, age + 1, 8, age + 1, 10, 0, 11, 20000);
-        curve(x, test, 0, 0, 16384, 16384);
-        x.seal(test);
+        define(x, test, 1, kind, 2, dose, 3, age);
+        read(x, test, age + 1);
+    }
+
+    /** As the plain one, with two reagents (kind, dose, age of each) and the reading behind them. */
+    static void withReagents(SampleAnalyser x, int test, int... kindDoseAge) {
+        for (int i = 0; i < kindDoseAge.length && i < 6; i++) {
+            x.define(test, i + 1, kindDoseAge[i]);
+        }
+        read(x, test, kindDoseAge[5] + 1);
     }
 
     /** The absorbance of this light is 1024 times the number (1 .. 16). */
